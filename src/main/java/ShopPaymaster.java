@@ -336,14 +336,15 @@ public final class ShopPaymaster {
         int made = 0;
         for (int i = 0; i < subscriptions.size(); i++) {
             Subscription subscription = subscriptions.get(i);
-            if (subscription.nextDay == day && isPaymentMade(subscription)) {
+            if (subscription.nextDay == day && tryPayment(subscription)) {
                 made++;
             }
         }
         return made;
     }
 
-    private boolean isPaymentMade(Subscription subscription) {
+    /** Tells whether the payment was made. */
+    private boolean tryPayment(Subscription subscription) {
         if (subscription.isFailing) {
             subscription.fail();
             return false;

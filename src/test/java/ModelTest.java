@@ -93,8 +93,10 @@ public final class ModelTest {
     }
 
     private static String[] setUp(int i) {
-        String call = i < 2 ? "addMaker 1 threshold" : i < 5 ? "addProduct 1 maker price" : "subscribe 1 product land days flag";
-        return call.split(" ");
+        if (i < 2) {
+            return "addMaker 1 threshold".split(" ");
+        }
+        return (i < 5 ? "addProduct 1 maker price" : "subscribe 1 product land days flag").split(" ");
     }
 
     private String[] anyCall() {
