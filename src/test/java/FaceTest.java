@@ -78,7 +78,8 @@ public final class FaceTest {
         Tests.due("public and final", ShopPaymaster.class.getModifiers(), Modifier.PUBLIC | Modifier.FINAL);
         for (Field field : ShopPaymaster.class.getDeclaredFields()) {
             boolean isFace = field.getName().equals("NONE");
-            Tests.due(field.getName() + " is private", Modifier.isPrivate(field.getModifiers()) ? 0 : 1, isFace ? 1 : 0);
+            boolean isHidden = Modifier.isPrivate(field.getModifiers());
+            Tests.due(field.getName() + " is private", isHidden ? 1 : 0, isFace ? 0 : 1);
         }
         Constructor<?>[] constructors = ShopPaymaster.class.getDeclaredConstructors();
         Tests.due("constructors", constructors.length, 1);
