@@ -139,7 +139,7 @@ public final class ModelTest {
             case "product":
                 return number(0, below(4) == 0 ? 19 : 4);
             case "sale":
-                return number(0, Math.max(0, object.sales() - 1));
+                return number(0, Math.max(0, model.sales() - 1));
             case "days":
                 return number(1, below(2) == 0 ? 60 : 5);
             case "subscription":

@@ -209,9 +209,9 @@ public final class SalesTest {
     }
 
     private static void noSuchSale() {
-        ShopPaymaster x = shop(1);
-        x.buy(0, 0);
         for (int sale : new int[] {-1, 1, Integer.MIN_VALUE, Integer.MAX_VALUE}) {
+            ShopPaymaster x = shop(1);
+            x.buy(0, 0);
             Tests.noSuch(x, "paid", () -> x.paid(sale));
             Tests.noSuch(x, "tax", () -> x.tax(sale));
             Tests.noSuch(x, "shopShare", () -> x.shopShare(sale));

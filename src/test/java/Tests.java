@@ -38,6 +38,19 @@ final class Tests {
         }
     }
 
+    /** Tells the first line alone in which the answers differ. */
+    static void dueLines(String what, String got, String want) {
+        String[] gotLines = got.split("\n");
+        String[] wantLines = want.split("\n");
+        due(what + ", lines", gotLines.length, wantLines.length);
+        for (int i = 0; i < Math.min(gotLines.length, wantLines.length); i++) {
+            if (!gotLines[i].equals(wantLines[i])) {
+                due(what + ", line " + i, gotLines[i], wantLines[i]);
+                return;
+            }
+        }
+    }
+
     static void noSuch(ShopPaymaster x, String call, Body body) {
         refused(x, IndexOutOfBoundsException.class, call, body);
     }
@@ -52,14 +65,17 @@ final class Tests {
 
     private static void refused(ShopPaymaster x, Class<?> kind, String call, Body body) {
         String before = State.brief(x);
-        String thrown = "nothing";
+        due(call + " throws", thrownBy(body), kind.getSimpleName());
+        due("the state after " + call, State.brief(x), before);
+    }
+
+    static String thrownBy(Body body) {
         try {
             body.run();
         } catch (RuntimeException e) {
-            thrown = e.getClass().getSimpleName() + thrower(e);
+            return e.getClass().getSimpleName() + thrower(e);
         }
-        due(call + " throws", thrown, kind.getSimpleName());
-        due("the state after " + call, State.brief(x), before);
+        return "nothing";
     }
 
     /** Empty if the class threw by itself; otherwise the machine or the library did, and it must not. */
