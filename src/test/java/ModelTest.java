@@ -178,7 +178,7 @@ public final class ModelTest {
         try {
             return "answers " + methods.get(name).invoke(target, values);
         } catch (InvocationTargetException e) {
-            return "throws " + e.getCause().getClass().getSimpleName();
+            return "throws " + e.getCause().getClass().getSimpleName() + Tests.thrower(e.getCause(), target.getClass());
         } catch (IllegalAccessException e) {
             return "can't be called";
         }

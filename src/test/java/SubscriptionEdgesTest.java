@@ -226,10 +226,10 @@ public final class SubscriptionEdgesTest {
         Tests.test("promise 15: 'fails on its day', told the day before", SubscriptionEdgesTest::toldDayBefore);
         Tests.test("promise 15: told on the day, the payment is made already", SubscriptionEdgesTest::toldOnDay);
         Tests.test("promise 15: told and taken back between two payments", SubscriptionEdgesTest::takenBack);
-        Tests.test("promise 15: it fails from payment to payment until it is taken back",
-                SubscriptionEdgesTest::failsFromNowOn);
+        Tests.test("promise 15: 'from now on', until it ends", SubscriptionEdgesTest::failsFromNowOn);
         Tests.test("promise 15: telling it twice is telling it once", SubscriptionEdgesTest::toldTwice);
-        Tests.test("promise 15: told and taken back on one day forgets no failure", SubscriptionEdgesTest::toldToAndFro);
+        Tests.test("promise 15: telling it to and fro on one day forgets no failure",
+                SubscriptionEdgesTest::toldToAndFro);
         Tests.test("promise 15: of one subscription alone", SubscriptionEdgesTest::failsAlone);
         Tests.test("promise 15: the price of the day of the try that is made", SubscriptionEdgesTest::priceOfTry);
         Tests.test("promise 15: a failed try is no sale", SubscriptionEdgesTest::noSaleOfTry);

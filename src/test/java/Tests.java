@@ -73,16 +73,16 @@ final class Tests {
         try {
             body.run();
         } catch (RuntimeException e) {
-            return e.getClass().getSimpleName() + thrower(e);
+            return e.getClass().getSimpleName() + thrower(e, ShopPaymaster.class);
         }
         return "nothing";
     }
 
     /** Empty if the class threw by itself; otherwise the machine or the library did, and it must not. */
-    private static String thrower(RuntimeException e) {
+    static String thrower(Throwable e, Class<?> due) {
         StackTraceElement[] calls = e.getStackTrace();
         String top = calls.length == 0 ? "nobody" : calls[0].getClassName();
-        return top.startsWith("ShopPaymaster") ? "" : " from " + top;
+        return top.startsWith(due.getName()) ? "" : " from " + top;
     }
 
     private static void wrong(String text) {
