@@ -367,7 +367,8 @@ public final class ShopPaymaster {
         }
 
         int taxIn(int price) {
-            return price * rate / (100 + rate);
+            int percentOfPrice = 100 + rate;
+            return percentOfPrice > 0 ? price * rate / percentOfPrice : 0;
         }
     }
 

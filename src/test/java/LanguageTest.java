@@ -29,6 +29,9 @@ public final class LanguageTest {
         Tests.test("rule 4: nothing of the library but what is listed", LanguageTest::library);
         Tests.test("rule 5: static fields are constants", LanguageTest::constants);
         Tests.test("rule 6: exceptions of the list, thrown with a written text", LanguageTest::exceptions);
+        Tests.test("rule 7: a divisor is looked at before it divides", LanguageTest::divisors);
+        Tests.test("rule 7: an index is looked at before it is used", LanguageTest::indexes);
+        Tests.test("rule 7: lengths of arrays are constants, and there are no casts", LanguageTest::lengthsAndCasts);
         Tests.test("rule 9: every loop has a condition", LanguageTest::loops);
         Tests.test("rule 11: parameters, classes and fields", LanguageTest::sizes);
         Tests.test("rule 11: methods stay short", LanguageTest::shortMethods);
@@ -114,6 +117,47 @@ public final class LanguageTest {
         none("exceptions of its own", "extends \\w*(Exception|Error|Throwable)");
     }
 
+    private static void divisors() {
+        Pattern division = Pattern.compile("[/%]=? ?(\\w+|\\W)");
+        for (String method : methods()) {
+            Matcher matcher = division.matcher(method);
+            while (matcher.find()) {
+                String divisor = matcher.group(1);
+                boolean isConstant = divisor.matches("[A-Z_]+|[1-9]\\d*");
+                boolean isLookedAt = isConstant || isBefore(method, matcher.start(), divisor + " > 0 ");
+                Tests.due("looked at: " + matcher.group(), isLookedAt ? 1 : 0, 1);
+            }
+        }
+    }
+
+    private static void indexes() {
+        Pattern use = Pattern.compile("(?<!new )\\b(\\w+)(\\.get\\(|\\.set\\(|\\.remove\\(|\\[)([^\\])]+)[\\])]");
+        int uses = 0;
+        for (String method : methods()) {
+            Matcher matcher = use.matcher(method);
+            while (matcher.find()) {
+                uses++;
+                String length = matcher.group(1) + (matcher.group(2).equals("[") ? ".length" : ".size()");
+                boolean isLookedAt = isBefore(method, matcher.start(), matcher.group(3) + " < " + length)
+                        || isBefore(method, matcher.start(), matcher.group(3) + " >= " + length);
+                Tests.due("looked at: " + matcher.group(), isLookedAt ? 1 : 0, 1);
+            }
+        }
+        Tests.due("indexes are found", uses > 10 ? 1 : 0, 1);
+    }
+
+    private static boolean isBefore(String text, int end, String part) {
+        int at = text.indexOf(part);
+        return at >= 0 && at < end;
+    }
+
+    private static void lengthsAndCasts() {
+        for (String length : found("new \\w+\\[([^\\]]*)\\]", 1)) {
+            Tests.due(length + " is a constant", length.matches("[A-Z_]+") ? 1 : 0, 1);
+        }
+        none("casts", "\\((int|long|short|byte|char|boolean|double|float|[A-Z]\\w*)(\\[\\])?\\) [\\w(]");
+    }
+
     private static void loops() {
         none("loops without a condition", "while \\(true\\)|for \\([^;]*; *;");
     }
@@ -133,13 +177,20 @@ public final class LanguageTest {
     }
 
     private static void shortMethods() {
-        Matcher method = Pattern.compile("(?s)\\n( {4}| {8})[^ \\n][^\\n;]*\\)[^;]*? \\{\\n(.*?)\\n\\1}").matcher(TEXT);
-        int methods = 0;
-        for (int from = 0; method.find(from); from = method.end()) {
-            methods++;
-            int lines = method.group(2).split("\n").length;
-            Tests.due("at most 60 lines: " + method.group().trim().split("\n")[0], lines <= 60 ? 1 : 0, 1);
+        for (String method : methods()) {
+            int lines = method.split("\n").length - 2;
+            Tests.due("at most 60 lines: " + method.split("\n")[0], lines <= 60 ? 1 : 0, 1);
         }
-        Tests.due("methods are found", methods > 40 ? 1 : 0, 1);
+    }
+
+    /** The text of each method and constructor, from its name to its last brace. */
+    private static List<String> methods() {
+        Matcher method = Pattern.compile("(?s)\\n( {4}| {8})[^ \\n][^\\n;]*\\)[^;]*? \\{\\n(.*?)\\n\\1}").matcher(TEXT);
+        List<String> all = new ArrayList<>();
+        for (int from = 0; method.find(from); from = method.end()) {
+            all.add(method.group().trim());
+        }
+        Tests.due("methods are found", all.size() > 40 ? 1 : 0, 1);
+        return all;
     }
 }
